@@ -125,10 +125,10 @@ public final class LieNights {
         if (!areAnswers(from, i, n)) {
             return UNKNOWN;
         }
-        int bound = boundOn(t, from, i, n);
         if (what == 0) {
-            return mayBe(t, from, i, bound == NONE ? n : bound + 1);
+            return mayBe(t, from, i, n);
         }
+        int bound = boundOn(t, from, i, n);
         if (what == 1) {
             return bound;
         }
@@ -290,9 +290,10 @@ public final class LieNights {
         if (noSecret() || !within(n, MOST_ODDS) || !within(which, 1)) {
             return LOST;
         }
+        Plan now = planned();
         int bound = 0;
         for (int t = 0; t < secret.answers(); t++) {
-            if (isBoundWithin(t, n)) {
+            if (isBoundWithin(now, t, n)) {
                 bound++;
             }
         }
@@ -525,6 +526,7 @@ public final class LieNights {
         return NONE;
     }
 
+    /** From the night on which he is bound only t is left, so that no night behind it matters. */
     private int mayBe(int t, Sheet from, int i, int n) {
         int set = secret.all();
         for (int night = 0; night < n; night++) {
@@ -533,10 +535,10 @@ public final class LieNights {
         return set;
     }
 
-    private boolean isBoundWithin(int t, int n) {
+    private boolean isBoundWithin(Plan now, int t, int n) {
         int set = secret.all();
         for (int night = 0; night < n; night++) {
-            int x = planned().askOf(set);
+            int x = now.askOf(set);
             if (x == t) {
                 return true;
             }
@@ -726,8 +728,8 @@ public final class LieNights {
             if (x == t) {
                 return NONE;
             }
-            int apart = Math.abs(placeOf(x) - placeOf(t));
-            switch (kindOf(x)) {
+            int apart = Math.abs(at(places, x) - at(places, t));
+            switch (at(kinds, x)) {
                 case SLY:
                     return apart + 1;
                 case VAIN:
@@ -885,7 +887,10 @@ public final class LieNights {
             // The night on which he is bound is the last: that part wants no more of them.
             int rest = set & ~(1 << x);
             for (int t = 0; t < answers; t++) {
-                int part = has(rest, t) ? rest & at(alike, x * Secret.MOST_ANSWERS + t) : 0;
+                if (!has(rest, t)) {
+                    continue;
+                }
+                int part = rest & at(alike, x * Secret.MOST_ANSWERS + t);
                 if (part == set) {
                     // Nothing is learnt by it: of the same set she would ask the same again.
                     return;

@@ -2,7 +2,7 @@ import java.util.Random;
 
 /** Runs of calls by chance, each answered by the class and by the model; the seeds are fixed. */
 public final class ModelTest {
-    private static final int RUNS = 1500, CALLS = 512;
+    private static final int SWEEPS = 300, RUNS = 1500, CALLS = 512;
     private static final int[] EDGES = {Integer.MIN_VALUE, Integer.MAX_VALUE, -2147483640, 2147483600, -9, -1, 60, 61, 64, 255, 256, 65536};
 
     private static Random chance;
@@ -131,7 +131,28 @@ public final class ModelTest {
         same("copy", x.copy(k, i, other, j, n), m.copy(k, i, other, j, n));
     }
 
+    private static void planEverySet(int seed) {
+        chance = new Random(seed);
+        LieNights x = new LieNights();
+        Model m = new Model();
+        tellText(x, m);
+        for (int set = 0; set < 64; set++) {
+            same("worst", x.worst(set), m.worst(set));
+            same("ask", x.ask(set), m.ask(set));
+            same("mean's upper number", x.mean(set, 0), m.mean(set, 0));
+            same("mean's lower number", x.mean(set, 1), m.mean(set, 1));
+            same("parts", x.parts(set % 6, set), m.parts(set % 6, set));
+        }
+        for (int n = 0; n < 10; n++) {
+            same("odds' upper number", x.odds(n, 0), m.odds(n, 0));
+            same("odds' lower number", x.odds(n, 1), m.odds(n, 1));
+        }
+    }
+
     public static void main(String[] args) {
+        for (int seed = 0; seed < SWEEPS; seed++) {
+            planEverySet(-seed);
+        }
         for (int run = 0; run < RUNS; run++) {
             chance = new Random(run);
             LieNights x = new LieNights();

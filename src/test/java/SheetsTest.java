@@ -14,7 +14,9 @@ public final class SheetsTest {
         LieNights x = new LieNights();
         comes(x, x.sheet(0, 0, 60), 1, 0);
         comes(x, x.put(0, 59, 7), 1, 0);
+        comes(x, x.put(0, 0, 7), 1, 0);
         comes(x, x.sheet(0, 2, 60), 1, 0);
+        comes(x, x.cell(0, 0, 2), 0, 0);
         comes(x, x.cell(0, 59, 2), 0, 0);
         comes(x, x.sheet(1, 1, 0), 1, 0);
         comes(x, x.cell(1, 0, 1), LOST, 3);

@@ -15,6 +15,10 @@ final class Bench {
         System.out.println(call + " answered " + got + ", due is " + want);
     }
 
+    static void due(String call, String got, String want) {
+        due(call + " told '" + got + "', due is '" + want + "';", got.equals(want) ? 1 : 0, 1);
+    }
+
     /** Ends the program: with exit code 1, if an answer was not as due or there was none at all. */
     static void end(String name) {
         System.out.println(name + ": " + right + " answers as due, " + wrong + " not");
